@@ -9,6 +9,7 @@ public final class DiskTest {
         bytesOfRows();
         saveRefuses();
         saveCutAnywhere();
+        savingBehindAnOlderHead();
         savingOnlyWhatIsNew();
         theGreatestLog();
         dark();
@@ -98,7 +99,34 @@ public final class DiskTest {
             due.is("open", x.open(), done ? 3 : 1);
             due.is("not dark", x.told(5), 0);
             due.is("head", x.told(4), done ? 0 : 1);
+            x.fact(2, 4);
+            due.is("save once more", x.save(100), 35);
+            due.is("not dark", x.told(5), 0);
+            due.is("open", x.open(), done ? 4 : 2);
+            due.is("value", x.value(done ? 3 : 1), 4);
         }
+    }
+
+    /** The sums of what is saved behind an older head hang on that head's rows. */
+    private static void savingBehindAnOlderHead() {
+        FactLog x = new FactLog();
+        x.fact(0, 1);
+        x.save(100);
+        x.fact(0, 2);
+        x.save(100);
+        x.poke(HEAD_0, 1);
+        due.is("the older head", x.open(), 1);
+        x.fact(0, 3);
+        due.is("save", x.save(100), 35);
+        due.is("open", x.open(), 2);
+        due.is("value", x.value(1), 3);
+        x.poke(HEAD_0, 1);
+        x.poke(HEAD_1, 1);
+        due.is("no head", x.open(), 0);
+        x.fact(0, 4);
+        due.is("save", x.save(100), 35);
+        due.is("open", x.open(), 1);
+        due.is("value", x.value(0), 4);
     }
 
     private static void savingOnlyWhatIsNew() {

@@ -153,6 +153,8 @@ public final class FactsTest {
         due.is("all stays told", x.lean(58), 2);
         due.is("told(0)", x.told(0), 60);
         due.is("usable(59)", x.usable(59), 1);
+        due.is("change", x.change(3, 1), 0);
+        due.is("check(59)", x.check(59), 1);
     }
 
     private static void checkPlain() {
@@ -280,21 +282,29 @@ public final class FactsTest {
         y.fact(3, 0);
         y.change(0, 1);
         due.is("no things: fresh", y.of(0, 3), 1);
-        freshWithChangesToCome();
+        freshAsParcelsTell();
     }
 
-    /** A parcel may tell of more changes than there were: then the count less the one then is below 0. */
-    private static void freshWithChangesToCome() {
+    /** A parcel may tell of digests and changes that never were: the count less the one then may be below 0. */
+    private static void freshAsParcelsTell() {
         FactLog x = new FactLog();
-        for (int kind = 2; kind < 4; kind++) {
-            for (int then : new int[] {1, MIN, MAX}) {
-                int[] row = Sums.join(new int[] {1, kind, 0, 0, 0, 0, 0, 0, 0, 0, 1, 6}, Sums.bytes(kind == 2 ? 5 : 0, 4),
-                    Sums.bytes(then, 4), new int[] {0});
-                Sums.layOut(x, Sums.join(row, new int[] {Sums.ofParcel(row)}));
-                due.is("take()", x.take(), 1);
-                due.is("kind " + kind + " with changes then " + then, x.of(x.told(0) - 1, 3), 0);
-            }
+        for (int then : new int[] {1, 3, MIN, MAX}) {
+            due.is("TEST, changes then " + then, freshAsTold(x, 2, 5, then), 0);
+            due.is("TEST with its digest", freshAsTold(x, 2, 0, then), 1);
+            due.is("SILENCE, changes then " + then, freshAsTold(x, 3, 0, then), 0);
         }
+        due.is("TEST, another digest and no changes", freshAsTold(x, 2, 5, 0), 1);
+        due.is("TEST, changes then -2", freshAsTold(x, 2, 5, -2), 1);
+        due.is("TEST, changes then -3", freshAsTold(x, 2, 5, -3), 0);
+        due.is("SILENCE, another digest and no changes", freshAsTold(x, 3, 5, 0), 0);
+    }
+
+    private static int freshAsTold(FactLog x, int kind, int digest, int changes) {
+        int[] front = Sums.join(new int[] {1, kind, 0, 0, 0, 0, 0, 0, 0, 0, 1, 6}, Sums.bytes(digest, 4),
+            Sums.bytes(changes, 4), new int[] {0});
+        Sums.layOut(x, Sums.join(front, new int[] {Sums.ofParcel(front)}));
+        due.is("take()", x.take(), 1);
+        return x.of(x.told(0) - 1, 3);
     }
 
     private static void fresh(FactLog x, String when, int... want) {
