@@ -392,7 +392,7 @@ public final class FactLog {
         }
     }
 
-    /** The facts; a fact rests only on lesser numbers, so one way through them in order finds all that hangs together. */
+    /** The facts. One rests only on lesser numbers, so one way through them in order finds all that hangs together. */
     private static final class Book {
         final Fact[] facts = new Fact[MOST_FACTS];
         int count;

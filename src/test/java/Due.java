@@ -12,7 +12,7 @@ final class Due {
         if (got != want) report(call + " answered " + got + ", due is " + want);
     }
 
-    /** The very class is due, not one below or above it, and thrown by the program: the machine writes a text of its own. */
+    /** The very class is due, and thrown by the program: the machine's own exception has a text of its own. */
     void throwsIndex(String call, Call made) {
         asked++;
         try {
