@@ -2,6 +2,7 @@
 public final class TermsTest {
     private static final int MIN = Integer.MIN_VALUE, MAX = Integer.MAX_VALUE;
     private static final int PLAIN = 0, PROOF = 1, TEST = 2, SILENCE = 3;
+    private static final int[] NEVER_WERE = {1, 2, 3, 255, MIN, MIN + 1, MAX, MAX - 1};
     private static final Due due = new Due();
 
     public static void main(String[] args) {
@@ -12,10 +13,12 @@ public final class TermsTest {
         lesserFactsButOnce();
         checkedAndDropped();
         plainAndProof();
+        plainAsParcelsTell();
         testInTwoChanges();
         testOfEachThing();
+        testAsParcelsTell();
         silence();
-        asParcelsTell();
+        silenceAsParcelsTell();
         usable();
         usableThroughAll();
         allOfItsCalls();
@@ -230,20 +233,29 @@ public final class TermsTest {
     }
 
     /** A parcel may tell of digests and changes that never were: the count less the one then may be below 0. */
-    private static void asParcelsTell() {
-        due.says(0, "(the count less the one then, from 0 to 2)");
-        for (int then : new int[] {1, 2, 3, 255, MIN, MIN + 1, MAX, MAX - 1}) {
-            due.is("TEST, changes then " + then, freshAsTold(TEST, 5, then), 0);
-            due.is("TEST with its digest", freshAsTold(TEST, 0, then), 1);
-            due.is("PLAIN with its digest", freshAsTold(PLAIN, 0, then), 1);
-            due.is("PLAIN, another digest", freshAsTold(PLAIN, 5, then), 0);
-            due.is("SILENCE, changes then " + then, freshAsTold(SILENCE, 0, then), 0);
+    private static void testAsParcelsTell() {
+        for (int then : NEVER_WERE) {
+            due.is("changes then " + then, freshAsTold(TEST, 5, then), 0);
+            due.is("with its digest", freshAsTold(TEST, 0, then), 1);
         }
-        for (int then : new int[] {0, -1, -2}) due.is("TEST, " + then, freshAsTold(TEST, 5, then), 1);
-        due.is("TEST, changes then -3", freshAsTold(TEST, 5, -3), 0);
-        due.is("SILENCE, another digest and no changes", freshAsTold(SILENCE, 5, 0), 0);
-        due.is("SILENCE, its digest and no changes", freshAsTold(SILENCE, 0, 0), 1);
-        due.is("SILENCE, changes then -1", freshAsTold(SILENCE, 0, -1), 0);
+        for (int then : new int[] {0, -1, -2}) due.is("changes then " + then, freshAsTold(TEST, 5, then), 1);
+        for (int then : new int[] {-3, -4}) due.is("changes then " + then, freshAsTold(TEST, 5, then), 0);
+    }
+
+    private static void silenceAsParcelsTell() {
+        for (int then : NEVER_WERE) due.is("changes then " + then, freshAsTold(SILENCE, 0, then), 0);
+        due.is("another digest and no changes", freshAsTold(SILENCE, 5, 0), 0);
+        due.is("its digest and no changes", freshAsTold(SILENCE, 0, 0), 1);
+        due.is("changes then -1", freshAsTold(SILENCE, 0, -1), 0);
+    }
+
+    private static void plainAsParcelsTell() {
+        for (int then : NEVER_WERE) {
+            for (int kind : new int[] {PLAIN, PROOF}) {
+                due.is("with its digest", freshAsTold(kind, 0, then), 1);
+                due.is("another digest", freshAsTold(kind, 5, then), 0);
+            }
+        }
     }
 
     private static int freshAsTold(int kind, int digest, int changes) {
