@@ -84,7 +84,7 @@ public final class ModelTest {
 
     private void ask(int f, int what) {
         same("of " + f + " " + what, log.of(f, what), model.of(f, what));
-        if (chance(3)) due.is(name + ", value", log.value(f), model.value(f));
+        if (chance(3)) same("value " + f, log.value(f), model.value(f));
     }
 
     private void aboutDisk() {
